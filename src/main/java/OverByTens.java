@@ -23,6 +23,7 @@ public final class OverByTens {
     private static final int MOST_UNDONE = 16;
     private static final int MOST_TAPE = 400;
     private static final int MOST_CLAUSES = 12;
+    private static final int MOST_TIMES = 20;
     private static final int LAST_DAY = 999;
     private static final int LEAST_TEN = 2;
     private static final int MOST_TEN = 99;
@@ -914,6 +915,8 @@ public final class OverByTens {
         private final Court court;
         private final int[] words = new int[OVER_OF + MOST_PARISHES];
         private int latest;
+        private int firstSum;
+        private int secondSum;
         int done;
 
         Runner(Machine machine, Court court) {
@@ -926,43 +929,45 @@ public final class OverByTens {
             done = 0;
             latest = NONE;
             for (int c = 0; c < text.size; c++) {
-                int times = Math.min(20, text.part(c, Text.TIMES));
+                int kind = text.part(c, Text.KIND);
+                int times = Math.min(MOST_TIMES, text.part(c, Text.TIMES));
                 for (int t = 0; t < times; t++) {
                     fillWords(text, land);
-                    int so = machine.value(text, text.part(c, Text.TEST), words);
-                    if (!machine.broken && so != 0 && !runOnce(text, c, land, past)) {
+                    if (!isWanted(text, c)) {
+                        continue;
+                    }
+                    if (!sumsAreWhole(text, c)) {
                         return c;
                     }
+                    if (past != null) {
+                        past.note(kind, land);
+                    }
+                    int answer = land.act(kind, firstSum, secondSum, 1, court);
+                    if (answer < 0) {
+                        return c;
+                    }
+                    if (past != null) {
+                        past.keep();
+                    }
+                    latest = kind == RECKONING ? answer : latest;
+                    done++;
                 }
             }
             return NONE;
         }
 
-        private boolean runOnce(Text text, int c, Land land, Past past) {
-            int kind = text.part(c, Text.KIND);
-            int a = machine.value(text, text.part(c, Text.FIRST), words);
+        private boolean isWanted(Text text, int c) {
+            int so = machine.value(text, text.part(c, Text.TEST), words);
+            return !machine.broken && so != 0;
+        }
+
+        private boolean sumsAreWhole(Text text, int c) {
+            firstSum = machine.value(text, text.part(c, Text.FIRST), words);
             if (machine.broken) {
                 return false;
             }
-            int b = machine.value(text, text.part(c, Text.SECOND), words);
-            if (machine.broken) {
-                return false;
-            }
-            if (past != null) {
-                past.note(kind, land);
-            }
-            int answer = land.act(kind, a, b, 1, court);
-            if (answer < 0) {
-                return false;
-            }
-            if (past != null) {
-                past.keep();
-            }
-            if (kind == RECKONING) {
-                latest = answer;
-            }
-            done++;
-            return true;
+            secondSum = machine.value(text, text.part(c, Text.SECOND), words);
+            return !machine.broken;
         }
 
         private void fillWords(Text text, Land land) {
@@ -988,7 +993,6 @@ public final class OverByTens {
         private static final int MOST_PARTS = 50;
         private static final int MOST_BRACKETS = 8;
         private static final int MOST_NUMBER = 1000;
-        private static final int MOST_TIMES = 20;
         // A token makes one instruction at most, a sum or a test one more to stop.
         private static final int CODE_ROOM = MOST_TAPE + 3 * MOST_CLAUSES;
 
