@@ -64,6 +64,24 @@ public final class ModelTest {
         for (int i = 0; i < n; i++) {
             parish(i == 0 ? -1 : r(6) == 0 ? -1 : r(i), r(most));
         }
+        if (r(3) == 0) {
+            slowWays();
+        }
+        if (r(4) == 0) {
+            int by = 2 + r(2);
+            due("terms(1, " + by + ")", x.terms(1, by), m.terms(1, by));
+        }
+    }
+
+    /** A law by which so many walk so long that there is no room for more. */
+    private void slowWays() {
+        tape("tens 13 + parish;steps 9;stays over - 1");
+        due("law()", x.law(), m.law());
+        due("force(0)", x.force(0), m.force(0));
+        for (int i = 0; i < 24; i++) {
+            int p = parishOr();
+            due("reckon(" + p + ")", x.reckon(p), m.reckon(p));
+        }
     }
 
     private void parish(int below, int count) {

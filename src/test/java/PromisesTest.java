@@ -340,6 +340,10 @@ public final class PromisesTest {
         lawFault("bars times 2", 5);
         lawFault("Tens 5", 0);
         lawFault("tensx 5", 0);
+        lawFault("tensz 5", 0);
+        lawFault("atens 5", 0);
+        lawFault("bens 5", 0);
+        lawFault("tenz 5", 0);
         lawFault("ten", 0);
         lawFault("tens5", NONE);
         lawFault("  tens5;stays1if1<2and2<3or3<4  ", NONE);
@@ -803,6 +807,11 @@ public final class PromisesTest {
     }
 
     private static void undoKeeps() {
+        OverByTens none = new OverByTens();
+        none.pass();
+        none.parish(NONE, 1);
+        due("behind the first parish", none.undo(), -3);
+        undoByOrders();
         OverByTens x = valleys();
         x.grow(0, 1);
         due("a refused parish", x.parish(9, 1), -1);
@@ -834,6 +843,28 @@ public final class PromisesTest {
         due("only what is behind", x.undo(), 1);
         due("the day goes back", x.count(14), 9);
         due("no more", x.undo(), -3);
+    }
+
+    private static void undoByOrders() {
+        OverByTens x = valleys();
+        Check.rule(x, "steps 1 + parish");
+        String[] texts = {"reckon 0", "reckon 3", "pass", "reckon 2", "lend 0 to 1", "grow 1 by 2", "reckon 1", "pass",
+            "pass", "pass", "reckon 0", "pass"};
+        String[] was = new String[texts.length];
+        for (int i = 0; i < texts.length; i++) {
+            was[i] = seen(x);
+            due("orders " + texts[i], Check.orders(x, texts[i]), 1);
+        }
+        for (int i = texts.length - 1; i >= 0; i--) {
+            due("undo " + texts[i], x.undo(), "rplg".indexOf(texts[i].charAt(0)));
+            due("as it was ahead of " + texts[i], seen(x).equals(was[i]) ? 1 : 0, 1);
+        }
+        String whole = String.join(";", texts);
+        due("all at once", Check.orders(x, whole), texts.length);
+        for (int i = texts.length - 1; i >= 0; i--) {
+            x.undo();
+            due("as it was then ahead of " + texts[i], seen(x).equals(was[i]) ? 1 : 0, 1);
+        }
     }
 
     private static void once() {
@@ -985,6 +1016,9 @@ public final class PromisesTest {
         OverByTens z = lone(97);
         z.parish(NONE, 97 + 97);
         due("a prime", z.best(0), 97);
+        OverByTens last = lone(197);
+        Check.rule(last, "bars if over = 98");
+        due("99 is the last", last.best(0), 99);
     }
 
     private static void hear() {
@@ -1023,6 +1057,7 @@ public final class PromisesTest {
         OverByTens y = lone(0);
         y.parish(0, 5);
         due("nobody can die in 0", y.hidden(NONE), 1);
+        due("the one can", lone(1).hidden(NONE), 1);
         due("but in 1", y.hidden(0), 1);
         Check.rule(y, "bars");
         y.hear(1, 4);
@@ -1052,6 +1087,8 @@ public final class PromisesTest {
         OverByTens y = lone(7);
         due("the one", y.look(0), 0);
         due("one left", y.look(1), 1);
+        y.parish(NONE, 7);
+        due("alike: the lowest", y.look(0), 0);
     }
 
     private static void moved() {
@@ -1067,13 +1104,20 @@ public final class PromisesTest {
         due("998", y.moved(0), 1);
         Check.rule(y, "bars");
         due("barred", y.moved(0), 0);
+        OverByTens z = lone(4);
+        z.terms(1, 2);
+        due("one birth, not two", z.moved(0), 1);
     }
 
     private static void flow() {
         OverByTens x = valleys();
+        Check.rule(x, "steps 9");
+        due("many walk", x.flow(4, 2), 4);
+        x.force(NONE);
         due("first", x.flow(1, 0), 1);
         due("how many", x.flow(1, 1), 3);
         due("groups", x.flow(1, 2), 0);
+        due("one man alone", lone(1).flow(2, 0), 1);
         due("two days", x.flow(2, 1), 8);
         due("n 0", x.flow(0, 0), NONE);
         due("n 61", x.flow(61, 0), NONE);
@@ -1124,6 +1168,15 @@ public final class PromisesTest {
         due("the latest stays", x.drawn(0, 0), 30);
         due("on paper", x.of(0, 1), 23);
         due("a hundred days", x.years(1000000, 100), 22);
+        int[] counts = {40, 0, 1, 20};
+        int[] walked = {22, 31, 11, 16};
+        for (int p = 0; p < 4; p++) {
+            due("count behind them " + p, x.drawn(p, 0), counts[p]);
+            due("walked behind them " + p, x.drawn(p, 1), walked[p]);
+        }
+        OverByTens one = lone(1);
+        due("a parish alone", one.years(7, 9), 2);
+        due("nobody is left", one.drawn(0, 0), 0);
         x.parish(0, 5);
         due("not one of them", x.drawn(4, 0), NONE);
         x.terms(0, 999);
@@ -1150,7 +1203,48 @@ public final class PromisesTest {
         due("status", y.status(), 0);
     }
 
+    private static void imageOfAll() {
+        OverByTens x = valleys();
+        x.hear(1, 2);
+        x.hear(0, 2);
+        Check.orders(x, "reckon 0;reckon 3;pass");
+        Check.rule(x, "steps 1 + parish;bars if depth > 1");
+        x.image(0);
+        Check.orders(x, "reckon 2;reckon 1;grow 0 by 5;reckon 0");
+        x.image(1);
+        x.back(1);
+        String more = seen(x);
+        int hidden = x.hidden(NONE);
+        x.back(0);
+        due("two heard", x.count(4), 2);
+        x.forget();
+        x.hear(3, 3);
+        x.hear(3, 4);
+        Check.orders(x, "reckon 1;pass;pass;reckon 2;reckon 0;pass");
+        x.back(1);
+        due("all as at the later one", seen(x).equals(more) ? 1 : 0, 1);
+        due("heard as then", x.hidden(NONE), hidden);
+        due("arrive", x.pass(), 5);
+        OverByTens y = new OverByTens();
+        y.image(0);
+        y.parish(NONE, 5);
+        y.parish(0, 5);
+        y.parish(1, 5);
+        y.image(1);
+        y.reckon(2);
+        y.back(0);
+        y.parish(NONE, 7);
+        y.parish(NONE, 8);
+        y.parish(NONE, 9);
+        due("walked anew", y.of(2, 3), 0);
+        due("depth anew", y.of(2, 2), 0);
+        y.back(1);
+        due("depth as then", y.of(2, 2), 2);
+        due("below as then", y.of(2, 0), 1);
+    }
+
     private static void imageAndBack() {
+        imageOfAll();
         OverByTens x = valleys();
         due("image 2", x.image(2), -1);
         due("image -1", x.image(-1), -1);
