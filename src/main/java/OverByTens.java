@@ -46,7 +46,6 @@ public final class OverByTens {
     private static final int STEPS = 2;
     private static final int BARS = 3;
 
-    private final int[] tape = new int[MOST_TAPE];
     private int bytes;
     private final Land land = new Land();
     private final Land[] images = new Land[2];
@@ -54,11 +53,10 @@ public final class OverByTens {
     private final Land yearsEnd = new Land();
     private boolean yearsKept;
     private final Past past = new Past();
-    private final Machine machine = new Machine();
-    private final Court court = new Court(machine);
-    private final Runner runner = new Runner(machine, court);
-    private final Paper paper = new Paper(court);
-    private final Reader reader = new Reader(tape);
+    private final Court court = new Court();
+    private final Runner runner = new Runner();
+    private final Paper paper = new Paper();
+    private final Reader reader = new Reader();
     private final int[] refusals = new int[5];
     private int latestRefusal;
     private int faultAt = NONE;
@@ -426,13 +424,14 @@ public final class OverByTens {
 
     private void putFour(int number) {
         for (int shift = 24; shift >= 0 && bytes < MOST_TAPE; shift -= 8) {
-            tape[bytes] = (number >>> shift) & 255;
+            reader.tape[bytes] = (number >>> shift) & 255;
             bytes++;
         }
     }
 
     private boolean addFromTape(int at) {
-        if (at < 0 || at + 2 >= bytes || at + 2 >= MOST_TAPE || tape[at + 2] > 9) {
+        int[] tape = reader.tape;
+        if (at < 0 || at + 2 >= bytes || at + 2 >= tape.length || tape[at + 2] > 9) {
             return false;
         }
         return land.addParish(tape[at] - 1, 10 * tape[at + 1] + tape[at + 2]) >= 0;
@@ -608,7 +607,9 @@ public final class OverByTens {
             System.arraycopy(other.heardOf, 0, heardOf, 0, MOST_HEARD);
             System.arraycopy(other.heardOver, 0, heardOver, 0, MOST_HEARD);
             // Laws never change once they are made, so that they can be shared.
-            System.arraycopy(other.laws, 0, laws, 0, MOST_LAWS);
+            for (int i = 0; i < MOST_LAWS; i++) {
+                laws[i] = other.laws[i];
+            }
             parishes = other.parishes;
             groups = other.groups;
             sea = other.sea;
@@ -843,17 +844,13 @@ public final class OverByTens {
         static final int TODAY = 6;
         static final int TEMPER = 7;
 
-        private final Machine machine;
+        private final Machine machine = new Machine();
         private final int[] words = new int[8];
         int tens;
         int over;
         int stay;
         int steps;
         boolean barred;
-
-        Court(Machine machine) {
-            this.machine = machine;
-        }
 
         int walkers() {
             return over - stay;
@@ -911,18 +908,13 @@ public final class OverByTens {
         static final int COUNT_OF = 5;
         static final int OVER_OF = COUNT_OF + MOST_PARISHES;
 
-        private final Machine machine;
-        private final Court court;
+        private final Machine machine = new Machine();
+        private final Court court = new Court();
         private final int[] words = new int[OVER_OF + MOST_PARISHES];
         private int latest;
         private int firstSum;
         private int secondSum;
         int done;
-
-        Runner(Machine machine, Court court) {
-            this.machine = machine;
-            this.court = court;
-        }
 
         /** Which clause could not be, what ran ahead of it being left as it is; NONE without. */
         int runAll(Text text, Land land, Past past) {
@@ -1002,7 +994,7 @@ public final class OverByTens {
         private static final int SIGN = 3;
         private static final int DEAD = 4;
 
-        private final int[] tape;
+        final int[] tape = new int[MOST_TAPE];
         final Text text = new Text(CODE_ROOM, MOST_CLAUSES);
         private int length;
         private int tokenStart;
@@ -1011,10 +1003,6 @@ public final class OverByTens {
         private int parts;
         private int faultAt;
         private boolean ordering;
-
-        Reader(int[] tape) {
-            this.tape = tape;
-        }
 
         /** Reads the tape's first bytes into the text: where its fault is; NONE without. */
         int read(int bytes, boolean asOrders) {
@@ -1340,7 +1328,7 @@ public final class OverByTens {
     private static final class Paper {
         private static final long WHOLE = 1000000000000L;
 
-        private final Court court;
+        private final Court court = new Court();
         final Land sheet = new Land();
         // What each parish had over, and how many walked from it, at once.
         private final int[] overs = new int[MOST_PARISHES];
@@ -1361,10 +1349,6 @@ public final class OverByTens {
         int flowFirst;
         int flowToSea;
         int flowGroups;
-
-        Paper(Court court) {
-            this.court = court;
-        }
 
         int stepsToSea(Land land, int parish) {
             int together = 0;

@@ -1243,8 +1243,25 @@ public final class PromisesTest {
         due("below as then", y.of(2, 0), 1);
     }
 
+    private static void imageOfHeard() {
+        OverByTens x = valleys();
+        x.hear(0, 2);
+        x.image(0);
+        x.forget();
+        x.hear(1, 2);
+        due("heard of another", x.hidden(NONE), 2);
+        x.back(0);
+        due("heard of whom", x.hidden(NONE), 4);
+        x.forget();
+        x.hear(0, 3);
+        due("heard otherwise", x.hidden(NONE), 0);
+        x.back(0);
+        due("heard how many over", x.hidden(NONE), 4);
+    }
+
     private static void imageAndBack() {
         imageOfAll();
+        imageOfHeard();
         OverByTens x = valleys();
         due("image 2", x.image(2), -1);
         due("image -1", x.image(-1), -1);
