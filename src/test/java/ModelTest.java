@@ -3,7 +3,7 @@ import java.util.Random;
 /** Long random runs of calls, each answer held against the model's. */
 public final class ModelTest {
     private final Random random;
-    private OverByTens x;
+    private Used x;
     private Model m;
     private StringBuilder story;
     private boolean failed;
@@ -21,7 +21,7 @@ public final class ModelTest {
     }
 
     private void run(int run) {
-        x = new OverByTens();
+        x = new Used();
         m = new Model();
         story = new StringBuilder();
         if (random.nextInt(8) != 0) {

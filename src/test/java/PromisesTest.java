@@ -54,8 +54,8 @@ public final class PromisesTest {
     }
 
     /** The valleys of the examples: 0 at the sea, 1 and 2 above it, 3 above 1. */
-    private static OverByTens valleys() {
-        OverByTens x = new OverByTens();
+    private static Used valleys() {
+        Used x = new Used();
         x.parish(NONE, 23);
         x.parish(0, 17);
         x.parish(0, 8);
@@ -63,14 +63,14 @@ public final class PromisesTest {
         return x;
     }
 
-    private static OverByTens lone(int count) {
-        OverByTens x = new OverByTens();
+    private static Used lone(int count) {
+        Used x = new Used();
         x.parish(NONE, count);
         return x;
     }
 
     private static void newObject() {
-        OverByTens x = new OverByTens();
+        Used x = new Used();
         for (int what = 0; what <= 12; what++) {
             due("new count(" + what + ")", x.count(what), 0);
         }
@@ -92,7 +92,7 @@ public final class PromisesTest {
     }
 
     private static void parish() {
-        OverByTens x = new OverByTens();
+        Used x = new Used();
         due("below itself", x.parish(0, 5), -1);
         due("below -2", x.parish(-2, 5), -1);
         due("count -1", x.parish(-1, -1), -1);
@@ -110,7 +110,7 @@ public final class PromisesTest {
     }
 
     private static void ofPlain() {
-        OverByTens x = valleys();
+        Used x = valleys();
         int[][] want = {{-1, 23, 0, 0, 10, 3, 3, 1, 0, 1}, {0, 17, 1, 0, 10, 7, 7, 1, 0, 2},
             {0, 8, 1, 0, 10, 8, 8, 1, 0, 2}, {1, 45, 2, 0, 10, 5, 5, 1, 0, 3}};
         for (int p = 0; p < 4; p++) {
@@ -129,7 +129,7 @@ public final class PromisesTest {
     }
 
     private static int byLaw(String law, int count, int what) {
-        OverByTens x = lone(count);
+        Used x = lone(count);
         Check.rule(x, law);
         return x.of(0, what);
     }
@@ -164,13 +164,13 @@ public final class PromisesTest {
         due("any bars", byLaw("bars;bars if 1 = 2", 23, 8), 1);
         due("broken bars", byLaw("bars if 1 % 0 = 0", 23, 8), 0);
         due("walkers of a barred one", byLaw("bars;stays 1", 23, 6), 2);
-        OverByTens x = valleys();
+        Used x = valleys();
         Check.rule(x, "steps parish + 2");
         due("steps to the sea", x.of(3, 9), 5 + 3 + 2);
     }
 
     private static void group() {
-        OverByTens x = valleys();
+        Used x = valleys();
         Check.rule(x, "steps 1 + parish");
         x.reckon(3);
         x.reckon(1);
@@ -198,7 +198,7 @@ public final class PromisesTest {
         int[] least = {0, 2, 0, 0};
         int[] most = {999, 99, 10, 9};
         int[] first = {0, 10, 2, 0};
-        OverByTens x = new OverByTens();
+        Used x = new Used();
         for (int what = 0; what < 4; what++) {
             due("too low " + what, x.terms(what, least[what] - 1), -1);
             due("too high " + what, x.terms(what, most[what] + 1), -1);
@@ -213,7 +213,7 @@ public final class PromisesTest {
     }
 
     private static void feedAndEnd() {
-        OverByTens x = new OverByTens();
+        Used x = new Used();
         for (int i = 1; i <= 20; i++) {
             due("feed " + i, x.feed(0, 0, 0, 0, 0), 20 * i);
         }
@@ -238,7 +238,7 @@ public final class PromisesTest {
     }
 
     private static void rowAndStones() {
-        OverByTens x = new OverByTens();
+        Used x = new Used();
         due("empty", x.row(), -6);
         Check.tape(x, 0, 2, 5, 5, 1, 1, 1, 3, 10, 1, 99, 9, 1);
         due("row", x.row(), 2);
@@ -262,7 +262,7 @@ public final class PromisesTest {
         due("as many as there is room for", x.row(), 8);
         due("two without room", x.stones(), 2);
         due("ten", x.count(0), 10);
-        OverByTens y = lone(5);
+        Used y = lone(5);
         y.grow(0, 1);
         Check.tape(y, 9, 9, 9);
         due("a row of a stone", y.row(), 0);
@@ -270,7 +270,7 @@ public final class PromisesTest {
     }
 
     private static void law() {
-        OverByTens x = lone(23);
+        Used x = lone(23);
         due("empty tape", x.law(), -6);
         due("fault of none", x.fault(), 0);
         for (int i = 0; i < 6; i++) {
@@ -289,7 +289,7 @@ public final class PromisesTest {
             x.force(i);
             due("tens of law " + i, x.of(0, 4), i + 2);
         }
-        OverByTens y = lone(23);
+        Used y = lone(23);
         due("a wrong one", Check.law(y, "tens 5 5"), -6);
         due("is none", y.count(5), 0);
         due("its tape is empty, too", y.count(7), 0);
@@ -299,7 +299,7 @@ public final class PromisesTest {
     }
 
     private static void lawFault(String text, int place) {
-        OverByTens x = new OverByTens();
+        Used x = new Used();
         due("law " + text, Check.law(x, text), place == NONE ? 0 : -6);
         due("fault of " + text, x.fault(), place);
     }
@@ -372,7 +372,7 @@ public final class PromisesTest {
     }
 
     private static void lawWords() {
-        OverByTens x = valleys();
+        Used x = valleys();
         x.terms(0, 37);
         x.terms(3, 6);
         x.reckon(3);
@@ -441,7 +441,7 @@ public final class PromisesTest {
     }
 
     private static void orders() {
-        OverByTens x = valleys();
+        Used x = valleys();
         due("orders", Check.orders(x, "reckon 3;pass"), 2);
         due("the tape", x.count(7), 0);
         due("walked on", x.of(1, 1), 22);
@@ -464,23 +464,23 @@ public final class PromisesTest {
     }
 
     private static void ordersWholly() {
-        OverByTens x = valleys();
-        x.grow(0, 1);
-        x.lend(1, 0, 2);
-        String before = seen(x);
         String[] wrong = {"pass;reckon 3;reckon 4", "grow 0 by 1;reckon 1 / 0", "grow 0 by 100", "grow 0 by 0-100",
             "reckon 0-1", "lend 3 to 0", "lend 3 to 3", "grow 0 by 99 times 11", "grow 9 by 1", "lend 0 to 9",
             "pass times 20;pass times 20;grow 0 by 1 % 0", "reckon 1000*1000*1000+1-1000*1000*1000-1",
             "grow 0 by 1000*1000*1000", "lend 1/0 to 0", "pass;pass;grow 2 by 0-9"};
         for (String text : wrong) {
+            Used x = valleys();
+            x.grow(0, 1);
+            x.lend(1, 0, 2);
+            String before = seen(x);
             due("orders " + text, Check.orders(x, text), -3);
             due("as it was ahead of " + text, seen(x).equals(before) ? 1 : 0, 1);
+            due("refused once", x.count(10), 1);
+            due("undo lend", x.undo(), 2);
+            due("undo grow", x.undo(), 3);
+            due("undo none", x.undo(), -3);
         }
-        due("refused", x.count(10), wrong.length);
-        due("undo lend", x.undo(), 2);
-        due("undo grow", x.undo(), 3);
-        due("undo none", x.undo(), -3);
-        OverByTens y = lone(9);
+        Used y = lone(9);
         Check.rule(y, "steps 9;tens 99;stays over - 1");
         due("seventeen groups", Check.orders(y, "grow 0 by 50;reckon 0 times 17"), -3);
         due("none", y.count(1), 0);
@@ -489,24 +489,12 @@ public final class PromisesTest {
         due("far and back", Check.orders(y, "grow 0 by 1000*1000*1000-1000*1000*1000"), 1);
     }
 
-    private static String seen(OverByTens x) {
-        StringBuilder all = new StringBuilder();
-        for (int p = 0; p < 10; p++) {
-            for (int what = 0; what < 4; what++) {
-                all.append(x.of(p, what)).append(' ');
-            }
-        }
-        for (int k = 0; k < 16; k++) {
-            all.append(x.group(k, 0)).append(' ').append(x.group(k, 1)).append(' ').append(x.group(k, 2)).append(' ');
-        }
-        for (int what : new int[] {0, 1, 2, 3, 4, 5, 6, 13, 14, 15, 16, 17}) {
-            all.append(x.count(what)).append(' ');
-        }
-        return all.toString();
+    private static String seen(Used x) {
+        return Check.seen(x);
     }
 
     private static void orderWords() {
-        OverByTens x = valleys();
+        Used x = valleys();
         due("done", Check.orders(x, "grow 0 by done;grow 1 by done;grow 2 by done"), 3);
         due("done 0", x.of(0, 1), 23);
         due("done 1", x.of(1, 1), 18);
@@ -536,7 +524,7 @@ public final class PromisesTest {
     }
 
     private static void orderFault(String text, int place) {
-        OverByTens x = new OverByTens();
+        Used x = new Used();
         int answer = Check.orders(x, text);
         due("orders " + text, answer == -6 ? 1 : 0, place == NONE ? 0 : 1);
         due("fault of " + text, x.fault(), place);
@@ -589,7 +577,7 @@ public final class PromisesTest {
     }
 
     private static void stopped() {
-        OverByTens x = valleys();
+        Used x = valleys();
         Check.orders(x, "pass;pass times 3;reckon 7;pass");
         due("the third", x.stopped(), 2);
         due("no fault", x.fault(), NONE);
@@ -607,7 +595,7 @@ public final class PromisesTest {
     }
 
     private static void force() {
-        OverByTens x = lone(23);
+        Used x = lone(23);
         due("no law", x.force(0), -2);
         due("no law -2", x.force(-2), -2);
         due("none", x.force(NONE), NONE);
@@ -631,7 +619,7 @@ public final class PromisesTest {
     }
 
     private static void reckon() {
-        OverByTens x = valleys();
+        Used x = valleys();
         due("-1", x.reckon(-1), -2);
         due("4", x.reckon(4), -2);
         due("3", x.reckon(3), 5);
@@ -645,7 +633,7 @@ public final class PromisesTest {
         due("some stay", x.reckon(1), 3);
         due("they do", x.of(1, 1), 14);
         due("three days", x.group(1, 2), 3);
-        OverByTens y = new OverByTens();
+        Used y = new Used();
         for (int i = 0; i < 10; i++) {
             y.parish(NONE, 999);
         }
@@ -664,7 +652,7 @@ public final class PromisesTest {
     }
 
     private static void caps() {
-        OverByTens x = new OverByTens();
+        Used x = new Used();
         x.parish(NONE, 995);
         x.parish(0, 98);
         Check.rule(x, "tens 99 if parish = 1;tens 5 if parish = 0");
@@ -675,51 +663,10 @@ public final class PromisesTest {
         x.pass();
         x.force(NONE);
         due("at once over 999", x.once(NONE), 9);
-        walkedCap();
-        OverByTens z = manySent(26);
-        due("sea", z.count(3), 99999);
-        due("walked", z.of(0, 3), 26 * 4 * 98);
-        z.grow(0, 98);
-        due("still they walk", z.reckon(0), 98);
-        due("still they come", z.pass(), 98);
-        due("the sea is full", z.count(3), 99999);
-        z.grow(0, 98);
-        due("who comes is told nevertheless", z.once(NONE), 98);
-        due("in days to come", z.flow(1, 1), 98);
-    }
-
-    private static void walkedCap() {
-        OverByTens x = lone(700);
-        Check.rule(x, "tens 99-count%31");
-        String text = Check.times(4, "grow0by99times9if count0<900;reckon0times16;pass", ";");
-        for (int i = 0; i < 32; i++) {
-            due("walked on", Check.orders(x, text) > 0 ? 1 : 0, 1);
-        }
-        due("walked at most", x.of(0, 3), 99999);
-        due("they walk on", Check.orders(x, "grow0by1;reckon 0times 3") > 0 ? 1 : 0, 1);
-        due("walked at most still", x.of(0, 3), 99999);
-    }
-
-    /** Ten parishes at the sea, from which 3920 walk by each of so many orders. */
-    private static OverByTens manySent(int rounds) {
-        OverByTens x = new OverByTens();
-        for (int i = 0; i < 10; i++) {
-            x.parish(NONE, 0);
-        }
-        Check.rule(x, "tens 99");
-        String part = "grow done%10 by 98 times 10;reckon done%10 times 10;pass";
-        for (int i = 0; i < rounds; i++) {
-            // After each pass "done" is one more: 21 orders a part.
-            String text = part + ";" + part.replace("done", "[done-1]") + ";" + part.replace("done", "[done-2]")
-                    + ";" + part.replace("done", "[done-3]");
-            due("orders of many", Check.orders(x, text), 84);
-            x.terms(0, 0);
-        }
-        return x;
     }
 
     private static void pass() {
-        OverByTens x = valleys();
+        Used x = valleys();
         due("nobody", x.pass(), 0);
         due("day 1", x.count(14), 1);
         x.reckon(0);
@@ -737,7 +684,7 @@ public final class PromisesTest {
     }
 
     private static void lend() {
-        OverByTens x = valleys();
+        Used x = valleys();
         due("down", x.lend(3, 1, 45), 0);
         due("there", x.of(1, 1), 62);
         due("up", x.lend(1, 3, 2), 60);
@@ -751,7 +698,7 @@ public final class PromisesTest {
         due("to the sea", x.lend(0, -1, 1), -2);
         due("from none", x.lend(4, 0, 1), -2);
         due("to none, too many", x.lend(3, 4, 99), -2);
-        OverByTens y = lone(950);
+        Used y = lone(950);
         y.parish(0, 99);
         due("beyond 999", y.lend(1, 0, 50), -3);
         due("to 999", y.lend(1, 0, 49), 50);
@@ -759,7 +706,7 @@ public final class PromisesTest {
     }
 
     private static void grow() {
-        OverByTens x = lone(100);
+        Used x = lone(100);
         due("99", x.grow(0, 99), 199);
         due("-99", x.grow(0, -99), 100);
         due("100", x.grow(0, 100), -1);
@@ -771,14 +718,14 @@ public final class PromisesTest {
         x.grow(0, -99);
         due("below 0", x.grow(0, -2), -3);
         due("to 0", x.grow(0, -1), 0);
-        OverByTens y = lone(990);
+        Used y = lone(990);
         due("beyond", y.grow(0, 10), -3);
         due("to 999", y.grow(0, 9), 999);
         due("MIN", y.grow(0, Integer.MIN_VALUE), -1);
     }
 
     private static void undo() {
-        OverByTens x = valleys();
+        Used x = valleys();
         due("none", x.undo(), -3);
         x.reckon(3);
         String walking = seen(x);
@@ -807,12 +754,12 @@ public final class PromisesTest {
     }
 
     private static void undoKeeps() {
-        OverByTens none = new OverByTens();
+        Used none = new Used();
         none.pass();
         none.parish(NONE, 1);
         due("behind the first parish", none.undo(), -3);
         undoByOrders();
-        OverByTens x = valleys();
+        Used x = valleys();
         x.grow(0, 1);
         due("a refused parish", x.parish(9, 1), -1);
         due("a refused term", x.terms(1, 1), -1);
@@ -846,29 +793,36 @@ public final class PromisesTest {
     }
 
     private static void undoByOrders() {
-        OverByTens x = valleys();
-        Check.rule(x, "steps 1 + parish");
         String[] texts = {"reckon 0", "reckon 3", "pass", "reckon 2", "lend 0 to 1", "grow 1 by 2", "reckon 1", "pass",
             "pass", "pass", "reckon 0", "pass"};
-        String[] was = new String[texts.length];
-        for (int i = 0; i < texts.length; i++) {
-            was[i] = seen(x);
-            due("orders " + texts[i], Check.orders(x, texts[i]), 1);
-        }
-        for (int i = texts.length - 1; i >= 0; i--) {
-            due("undo " + texts[i], x.undo(), "rplg".indexOf(texts[i].charAt(0)));
-            due("as it was ahead of " + texts[i], seen(x).equals(was[i]) ? 1 : 0, 1);
-        }
-        String whole = String.join(";", texts);
-        due("all at once", Check.orders(x, whole), texts.length);
-        for (int i = texts.length - 1; i >= 0; i--) {
-            x.undo();
-            due("as it was then ahead of " + texts[i], seen(x).equals(was[i]) ? 1 : 0, 1);
+        for (int from = 0; from <= texts.length; from++) {
+            Used first = slowValleys();
+            Used apart = slowValleys();
+            Used together = slowValleys();
+            for (int i = 0; i < texts.length; i++) {
+                due("orders " + texts[i], Check.orders(apart, texts[i]), 1);
+                if (i < from) {
+                    Check.orders(first, texts[i]);
+                }
+            }
+            due("all in one text", Check.orders(together, String.join(";", texts)), texts.length);
+            for (int i = texts.length - 1; i >= from; i--) {
+                due("undo " + texts[i], apart.undo(), "rplg".indexOf(texts[i].charAt(0)));
+                due("undo of one text " + texts[i], together.undo(), "rplg".indexOf(texts[i].charAt(0)));
+            }
+            due("as it was then " + from, seen(apart).equals(seen(first)) ? 1 : 0, 1);
+            due("as it was then, by one text " + from, seen(together).equals(seen(first)) ? 1 : 0, 1);
         }
     }
 
+    private static Used slowValleys() {
+        Used x = valleys();
+        Check.rule(x, "steps 1 + parish");
+        return x;
+    }
+
     private static void once() {
-        OverByTens x = valleys();
+        Used x = valleys();
         due("to the sea", x.once(NONE), 3);
         int[] want = {3, 2, 8, 5};
         for (int p = 0; p < 4; p++) {
@@ -885,27 +839,27 @@ public final class PromisesTest {
         x.force(NONE);
         x.reckon(3);
         due("groups aside", x.once(1), 7);
-        OverByTens y = lone(30);
+        Used y = lone(30);
         y.parish(0, 7);
         Check.rule(y, "bars if count > 30 and parish = 0");
         due("barred by who comes", y.once(NONE), 0);
         y.force(NONE);
         Check.rule(y, "tens 10 + walked;bars if day = 1");
         due("walked by now", y.once(NONE), 7);
-        OverByTens z = new OverByTens();
+        Used z = new Used();
         z.parish(NONE, 5);
         z.parish(NONE, 6);
         due("both to the sea", z.once(NONE), 11);
     }
 
     private static void fewest() {
-        OverByTens x = valleys();
+        Used x = valleys();
         due("walk", x.fewest(0), 16);
         due("ahead", x.fewest(1), 12);
         due("what 2", x.fewest(2), NONE);
         due("what -1", x.fewest(-1), NONE);
         due("on paper", x.of(0, 1), 23);
-        OverByTens y = lone(5);
+        Used y = lone(5);
         y.parish(0, 4);
         due("behind is fewer", y.fewest(0), 9);
         due("nobody ahead, the lowest", y.fewest(1), 0);
@@ -915,7 +869,7 @@ public final class PromisesTest {
         Check.rule(y, "bars if parish = 1");
         due("barred", y.fewest(0), 5);
         due("then it is alike", y.fewest(1), 0);
-        OverByTens z = new OverByTens();
+        Used z = new Used();
         for (int i = 0; i < 10; i++) {
             z.parish(i - 1, 11);
         }
@@ -927,7 +881,7 @@ public final class PromisesTest {
     }
 
     private static void lent() {
-        OverByTens x = valleys();
+        Used x = valleys();
         due("some would be over", x.lent(0), NOTHING);
         due("of a parish, too", x.lent(1), NOTHING);
         x.grow(0, -3);
@@ -944,17 +898,17 @@ public final class PromisesTest {
         due("up what is missing", x.lent(2), -1);
         due("up, too", x.lent(3), -1);
         due("nothing of 45", x.lent(4), 0);
-        OverByTens y = lone(5);
+        Used y = lone(5);
         y.parish(0, 5);
         due("alike: down", y.lent(2), 5);
         y.parish(NONE, 1);
         due("another valley", y.lent(0), NOTHING);
-        due("none: none", new OverByTens().lent(0), 0);
-        due("none: nothing", new OverByTens().lent(1), NOTHING);
+        due("none: none", new Used().lent(0), 0);
+        due("none: nothing", new Used().lent(1), NOTHING);
     }
 
     private static void odds() {
-        OverByTens x = valleys();
+        Used x = valleys();
         due("now", x.odds(1, 0, 7), 1000000000000L);
         due("now not", x.odds(1, 0, 6), 0);
         due("a day", x.odds(1, 1, 8), 200000000000L);
@@ -999,12 +953,12 @@ public final class PromisesTest {
     }
 
     private static void best() {
-        OverByTens x = valleys();
+        Used x = valleys();
         due("ten", x.best(0), 3);
         due("to the sea", x.best(1), 0);
         due("what 2", x.best(2), NONE);
         due("what -1", x.best(-1), NONE);
-        OverByTens y = lone(1);
+        Used y = lone(1);
         due("one man alone", y.best(0), 2);
         due("goes", y.best(1), 1);
         y.grow(0, 98);
@@ -1013,16 +967,16 @@ public final class PromisesTest {
         due("a law of who stays", y.best(0), 2);
         due("nobody goes", y.best(1), 0);
         due("by law it is otherwise", y.once(NONE), 48);
-        OverByTens z = lone(97);
+        Used z = lone(97);
         z.parish(NONE, 97 + 97);
         due("a prime", z.best(0), 97);
-        OverByTens last = lone(197);
+        Used last = lone(197);
         Check.rule(last, "bars if over = 98");
         due("99 is the last", last.best(0), 99);
     }
 
     private static void hear() {
-        OverByTens x = valleys();
+        Used x = valleys();
         due("over -1", x.hear(0, -1), -1);
         due("over 99", x.hear(0, 99), -1);
         due("over 99 of none", x.hear(9, 99), -1);
@@ -1042,7 +996,7 @@ public final class PromisesTest {
     }
 
     private static void hidden() {
-        OverByTens x = valleys();
+        Used x = valleys();
         due("nothing heard", x.hidden(NONE), 4);
         due("-2", x.hidden(-2), NONE);
         x.hear(0, 2);
@@ -1054,7 +1008,7 @@ public final class PromisesTest {
         due("third", x.hidden(2), NONE);
         x.hear(1, 3);
         due("not both", x.hidden(NONE), 0);
-        OverByTens y = lone(0);
+        Used y = lone(0);
         y.parish(0, 5);
         due("nobody can die in 0", y.hidden(NONE), 1);
         due("the one can", lone(1).hidden(NONE), 1);
@@ -1072,7 +1026,7 @@ public final class PromisesTest {
     }
 
     private static void look() {
-        OverByTens x = valleys();
+        Used x = valleys();
         due("at first", x.look(0), 1);
         due("left", x.look(1), 2);
         x.hear(0, 2);
@@ -1084,7 +1038,7 @@ public final class PromisesTest {
         x.hear(2, 98);
         due("none hidden", x.look(0), NONE);
         due("none left", x.look(1), NONE);
-        OverByTens y = lone(7);
+        Used y = lone(7);
         due("the one", y.look(0), 0);
         due("one left", y.look(1), 1);
         y.parish(NONE, 7);
@@ -1092,25 +1046,25 @@ public final class PromisesTest {
     }
 
     private static void moved() {
-        OverByTens x = valleys();
+        Used x = valleys();
         due("3", x.moved(3), 11);
         due("2", x.moved(2), 5);
         due("0", x.moved(0), 1);
         due("4", x.moved(4), NONE);
         due("-1", x.moved(-1), NONE);
-        OverByTens y = lone(999);
+        Used y = lone(999);
         due("999", y.moved(0), NONE);
         y.grow(0, -1);
         due("998", y.moved(0), 1);
         Check.rule(y, "bars");
         due("barred", y.moved(0), 0);
-        OverByTens z = lone(4);
+        Used z = lone(4);
         z.terms(1, 2);
         due("one birth, not two", z.moved(0), 1);
     }
 
     private static void flow() {
-        OverByTens x = valleys();
+        Used x = valleys();
         Check.rule(x, "steps 9");
         due("many walk", x.flow(4, 2), 4);
         x.force(NONE);
@@ -1128,12 +1082,12 @@ public final class PromisesTest {
         due("three days and one", x.flow(10, 0), 4);
         due("none in three", x.flow(3, 0), 0);
         due("groups by then", x.flow(3, 2), 4);
-        OverByTens y = lone(40);
+        Used y = lone(40);
         y.terms(0, 998);
         Check.rule(y, "tens 7 if day > 1000");
         due("behind 999", y.flow(60, 0), 4);
         due("40 by 7", y.flow(60, 1), 5);
-        OverByTens z = new OverByTens();
+        Used z = new Used();
         z.parish(NONE, 999);
         z.parish(NONE, 999);
         Check.rule(z, "tens 99;steps 9;stays over - 1");
@@ -1145,7 +1099,7 @@ public final class PromisesTest {
     }
 
     private static void years() {
-        OverByTens x = new OverByTens();
+        Used x = new Used();
         due("no parishes", x.years(0, 1), -3);
         due("no parishes, seed", x.years(-1, 1), -1);
         x = valleys();
@@ -1174,7 +1128,7 @@ public final class PromisesTest {
             due("count behind them " + p, x.drawn(p, 0), counts[p]);
             due("walked behind them " + p, x.drawn(p, 1), walked[p]);
         }
-        OverByTens one = lone(1);
+        Used one = lone(1);
         due("a parish alone", one.years(7, 9), 2);
         due("nobody is left", one.drawn(0, 0), 0);
         x.parish(0, 5);
@@ -1186,7 +1140,7 @@ public final class PromisesTest {
         x.terms(0, 998);
         due("a day is left", x.years(0, 100), 3);
         // Of five: 12345 % 5 is 0, then 628841 % 3 is 2: three walk from 0 to the sea.
-        OverByTens y = lone(23);
+        Used y = lone(23);
         y.parish(0, 1);
         y.parish(0, 1);
         y.parish(0, 1);
@@ -1204,7 +1158,7 @@ public final class PromisesTest {
     }
 
     private static void imageOfAll() {
-        OverByTens x = valleys();
+        Used x = valleys();
         x.hear(1, 2);
         x.hear(0, 2);
         Check.orders(x, "reckon 0;reckon 3;pass");
@@ -1225,7 +1179,7 @@ public final class PromisesTest {
         due("all as at the later one", seen(x).equals(more) ? 1 : 0, 1);
         due("heard as then", x.hidden(NONE), hidden);
         due("arrive", x.pass(), 5);
-        OverByTens y = new OverByTens();
+        Used y = new Used();
         y.image(0);
         y.parish(NONE, 5);
         y.parish(0, 5);
@@ -1244,7 +1198,7 @@ public final class PromisesTest {
     }
 
     private static void imageOfHeard() {
-        OverByTens x = valleys();
+        Used x = valleys();
         x.hear(0, 2);
         x.image(0);
         x.forget();
@@ -1262,7 +1216,7 @@ public final class PromisesTest {
     private static void imageAndBack() {
         imageOfAll();
         imageOfHeard();
-        OverByTens x = valleys();
+        Used x = valleys();
         due("image 2", x.image(2), -1);
         due("image -1", x.image(-1), -1);
         due("back 2", x.back(2), -1);
@@ -1322,7 +1276,7 @@ public final class PromisesTest {
     }
 
     private static void count() {
-        OverByTens x = valleys();
+        Used x = valleys();
         x.reckon(1);
         x.reckon(2);
         x.hear(0, 0);
@@ -1368,7 +1322,7 @@ public final class PromisesTest {
     }
 
     private static void status() {
-        OverByTens x = new OverByTens();
+        Used x = new Used();
         x.parish(5, 5);
         due("parish", x.status(), -1);
         x.parish(NONE, 5);
