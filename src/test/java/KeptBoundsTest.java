@@ -238,6 +238,16 @@ public final class KeptBoundsTest {
         }
         due("twelve of those, four of these", x.of(0, 1), 106);
         due("no more", x.undo(), -3);
+        Used refused = Check.lone(10);
+        for (int i = 0; i < 16; i++) {
+            refused.grow(0, 1);
+        }
+        due("one that is REFUSED", refused.grow(0, 100), -1);
+        due("another", refused.reckon(5), -2);
+        for (int i = 0; i < 16; i++) {
+            refused.undo();
+            due("costs none of the 16", refused.of(0, 1), 25 - i);
+        }
     }
 
     private static void undoByOrders() {
@@ -321,6 +331,10 @@ public final class KeptBoundsTest {
         full.grow(0, 1);
         due("no room", full.parish(NONE, 5), -5);
         due("leaves it, too", full.undo(), 3);
+        Used first = new Used();
+        first.pass();
+        first.parish(NONE, 5);
+        due("behind the first PARISH", first.undo(), -3);
     }
 
     private static void undoOnlyTheAct() {
@@ -350,6 +364,26 @@ public final class KeptBoundsTest {
         due("COUNT below", x.of(0, 1), 20);
         due("it can pass again", x.pass(), 11);
         due("COUNT below then", x.of(0, 1), 28);
+        Used y = valleys();
+        Check.rule(y, "steps 1+parish");
+        y.reckon(0);
+        y.reckon(3);
+        y.reckon(2);
+        y.pass();
+        y.grow(1, 1);
+        y.reckon(1);
+        due("the latest", y.undo(), 0);
+        due("the birth", y.undo(), 3);
+        due("the day", y.undo(), 1);
+        int[] from = {0, 3, 2};
+        int[] size = {3, 5, 8};
+        int[] left = {1, 4, 3};
+        for (int k = 0; k < 3; k++) {
+            due("FROM of " + k, y.group(k, 0), from[k]);
+            due("SIZE of " + k, y.group(k, 1), size[k]);
+            due("LEFT of " + k, y.group(k, 2), left[k]);
+        }
+        due("no fourth", y.group(3, 0), NONE);
     }
 
     /** A parish alone, whom nobody leaves: what it has behind n days, by the document's words. */
@@ -500,6 +534,13 @@ public final class KeptBoundsTest {
         x.years(0, 1);
         due("room for one", x.drawn(0, 2), 16);
         due("COUNT is less", x.drawn(0, 0), 41);
+        // Seed 7: one is born on the first day, it is reckoned on the second.
+        Used z = Check.lone(57);
+        due("8 walk on the second", z.years(7, 2), 8);
+        Check.rule(z, "bars if day=0");
+        due("DAY is 1 then", z.years(7, 2), 8);
+        Check.rule(z, "bars if day=1");
+        due("so that this bars", z.years(7, 2), 0);
         Used y = valleys();
         due("to a PARISH, not to the SEA", y.years(0, 1), 0);
         due("there", y.drawn(0, 0), 30);
@@ -644,6 +685,52 @@ public final class KeptBoundsTest {
         due("no PARISH 4", x.of(4, 1), NOTHING);
         due("a new one has its number", x.parish(0, 7), 4);
         due("nobody walked from it", x.of(4, 3), 0);
+        imageOfHeard();
+        imageOfValleys();
+    }
+
+    private static void imageOfHeard() {
+        says("IV: BACK to what was HEARD");
+        Used x = new Used();
+        x.parish(NONE, 5);
+        x.parish(NONE, 6);
+        x.hear(0, 4);
+        x.image(0);
+        x.forget();
+        x.hear(1, 4);
+        due("of the other", x.hidden(NONE), 0);
+        x.back(0);
+        due("of this", x.hidden(NONE), 1);
+        x.forget();
+        x.hear(0, 5);
+        due("so many", x.hidden(0), 1);
+        x.back(0);
+        due("so many as then", x.hidden(0), 0);
+    }
+
+    private static void imageOfValleys() {
+        says("IV: BACK to how the valleys lay");
+        Used x = new Used();
+        x.image(0);
+        x.parish(NONE, 5);
+        x.parish(0, 6);
+        x.parish(1, 7);
+        x.reckon(2);
+        x.image(1);
+        x.back(0);
+        x.parish(NONE, 1);
+        x.parish(NONE, 2);
+        x.parish(0, 3);
+        due("depth anew", x.of(2, 2), 1);
+        due("below anew", x.of(2, 0), 0);
+        due("walked anew", x.of(2, 3), 0);
+        x.back(1);
+        int[] want = {1, 0, 2, 7};
+        for (int what = 0; what < 4; what++) {
+            due("of(2, " + what + ")", x.of(2, what), want[what]);
+        }
+        due("they walk", x.group(0, 1), 7);
+        due("to 1", x.pass() == 7 ? x.of(1, 1) : NONE, 13);
     }
 
     private static void imageKeepsNot() {

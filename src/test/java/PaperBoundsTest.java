@@ -20,6 +20,7 @@ public final class PaperBoundsTest {
         onceGroupsAside();
         onceCountAsItBecomes();
         onPaper();
+        askedAnew();
         fewestWhat();
         fewestLowest();
         fewestOfTen();
@@ -196,6 +197,39 @@ public final class PaperBoundsTest {
         due("all as it was", Check.seen(x).equals(was) ? 1 : 0, 1);
         due("they walk on", x.pass(), 0);
         due("and come", x.pass(), 7);
+    }
+
+    private static void askedAnew() {
+        says("III: each asked anew");
+        Used x = inARow(5, 5, 0);
+        Check.rule(x, "steps 9");
+        due("one ahead", x.fewest(1), 2);
+        due("groups", x.flow(2, 2), 2);
+        due("moved", x.moved(1), 3);
+        due("hidden", x.hidden(NONE), 2);
+        x.force(NONE);
+        x.grow(1, 5);
+        due("nobody ahead", x.fewest(1), 0);
+        due("five", x.fewest(0), 5);
+        due("no groups", x.flow(2, 2), 0);
+        due("five come", x.flow(2, 1), 5);
+        due("moved then", x.moved(2), 7);
+        x.grow(0, -5);
+        due("hidden then", x.hidden(NONE), 1);
+        due("no day", x.flow(60, 0), 0);
+        due("nobody", x.flow(60, 1), 0);
+        due("lent", x.lent(0), 0);
+        x.grow(2, 1);
+        x.grow(0, 9);
+        due("lent then", x.lent(0), 2);
+        due("look", x.look(0), 1);
+        due("two left", x.look(1), 2);
+        Used y = Check.lone(25);
+        due("best", y.best(0), 5);
+        y.grow(0, -1);
+        due("best then", y.best(0), 2);
+        y.grow(0, -23);
+        due("best of one", y.best(1), 1);
     }
 
     private static void fewestWhat() {
@@ -724,6 +758,7 @@ public final class PaperBoundsTest {
         due("by way of 0", y.flow(60, 0), 2);
         due("not on the first day", y.flow(1, 0), 0);
         due("nobody over", Check.lone(10).flow(60, 0), 0);
+        due("one man is some", Check.lone(1).flow(60, 0), 1);
         says("III: in DAYS to come, GROUPS as they are");
         Used z = Check.lone(5);
         Check.rule(z, "steps 3");

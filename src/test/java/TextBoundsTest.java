@@ -30,6 +30,7 @@ public final class TextBoundsTest {
         faultAtTheEnd();
         faultOfTheLatest();
         wordsOfEach();
+        sidesOfTests();
         beyondBillion();
         dividedByNothing();
         cutTowards0();
@@ -209,6 +210,39 @@ public final class TextBoundsTest {
         law("tensday", 0);
         law("tens5if1=1", NONE);
         law("tens5if1=1if", 10);
+        String[] words = {"tens 5", "stays 5", "steps 5", "bars", "tens parish", "tens count", "tens over",
+            "tens below", "tens depth", "tens walked", "tens day", "tens mood", "bars if 1=1 and 1=1",
+            "bars if 1=1 or 1=1", "bars if not 1=1"};
+        for (String text : words) {
+            eachLetter(text, false);
+        }
+        String[] orders = {"reckon 1", "pass", "lend 1 to 1", "grow 1 by 1", "pass times 2", "pass if 1=1",
+            "reckon day", "reckon done", "reckon latest", "reckon sea", "reckon walking", "reckon count 1",
+            "reckon over 1"};
+        for (String text : orders) {
+            eachLetter(text, true);
+        }
+    }
+
+    /** Another letter in place of any, one more or one fewer: no such word. */
+    private static void eachLetter(String text, boolean asOrders) {
+        int start = 0;
+        for (int at = 0; at < text.length(); at++) {
+            if (!Character.isLetter(text.charAt(at))) {
+                continue;
+            }
+            start = at > 0 && Character.isLetter(text.charAt(at - 1)) ? start : at;
+            int end = at + 1;
+            String[] wrong = {text.substring(0, at) + "z" + text.substring(end), text.substring(0, at) + "z"
+                + text.substring(at), text.substring(0, at) + text.substring(end)};
+            for (String spoilt : wrong) {
+                if (asOrders) {
+                    orders(spoilt, start);
+                } else {
+                    law(spoilt, start);
+                }
+            }
+        }
     }
 
     private static void digits() {
@@ -611,6 +645,23 @@ public final class TextBoundsTest {
         due("by one less: BROKEN", byLaw("tens 5;tens 0-" + most + "-1", 5, 4), 5);
     }
 
+    private static void sidesOfTests() {
+        says("II: SUM (< | > | =) SUM, not PLAIN");
+        String[] signs = {"<", ">", "="};
+        for (int a = 4; a <= 6; a++) {
+            boolean[] want = {a < 5, a > 5, a == 5};
+            for (int i = 0; i < 3; i++) {
+                so(a + signs[i] + "5", want[i]);
+                so("not " + a + signs[i] + "5", !want[i]);
+                so("not not " + a + signs[i] + "5", want[i]);
+                so("not (" + a + signs[i] + "5 and 1=1)", !want[i]);
+                so("not (" + a + signs[i] + "5 or 1=2)", !want[i]);
+                so("(" + a + signs[i] + "5 or 1=2) and not " + a + signs[i] + "6",
+                        want[i] && !(i == 0 ? a < 6 : i == 1 ? a > 6 : a == 6));
+            }
+        }
+    }
+
     private static void dividedByNothing() {
         says("II: divided by 0 a SUM, a TEST is BROKEN");
         so("1/1 = 1", true);
@@ -852,6 +903,8 @@ public final class TextBoundsTest {
             together += Math.max(1, p);
             due("together from " + p, x.of(p, 9), together);
         }
+        due("by who is over", byLaw("steps over", 27, 9), 7);
+        due("by who is over by the law", byLaw("tens 6;steps over", 27, 9), 3);
     }
 
     private static void overInTens() {
@@ -953,7 +1006,9 @@ public final class TextBoundsTest {
     private static void doneAndLatest() {
         says("II: done, how many were run in this TEXT; latest, how many walked by the latest reckoning in it (-1: none)");
         Used x = Check.lone(57);
-        due("done", Check.orders(x, "pass if done=0;pass if done=2;pass if done=1;pass times 3 if done<4"), 4);
+        due("done", Check.orders(x, "pass if done=0;pass if done=2;pass if done=1;pass times 9 if done<5"), 5);
+        due("done by a SUM", Check.orders(x, "pass times 2;grow 0 by done;pass;grow 0 by 0-done/2"), 5);
+        due("2 more, 2 fewer", x.of(0, 1), 57);
         due("anew in each TEXT", Check.orders(x, "pass if done=0"), 1);
         due("latest, none", Check.orders(x, "pass if latest=0-1;pass;pass if latest=0-1"), 3);
         due("latest", Check.orders(x, "reckon 0;pass if latest=7;reckon 0;pass if latest=0;pass if latest=7"), 4);
@@ -993,6 +1048,7 @@ public final class TextBoundsTest {
             due("ahead of " + text, Check.orders(x, "grow 0 by 5;reckon 0;lend 1 to 0;" + text + ";pass"), -3);
             due("by status", x.status(), -3);
             due("which", x.stopped(), 3);
+            due("the TAPE is empty", x.count(7), 0);
             due("as it was ahead of " + text, Check.seen(x).equals(was) ? 1 : 0, 1);
             due("refused once", x.count(8) + x.count(9) + x.count(10) + x.count(11), 1);
             due("what can be undone is", x.undo(), 0);
