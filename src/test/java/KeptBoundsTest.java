@@ -2,12 +2,7 @@
  * The boundaries of Terms IV and of promises 8, 9, 19 and 31 to 36: at each
  * of them, one short of it, one beyond it.
  */
-public final class KeptBoundsTest {
-    private static final int NONE = OverByTens.NONE;
-    private static final int NOTHING = OverByTens.NOTHING;
-    private static final int MAX = Integer.MAX_VALUE;
-    private static final int MIN = Integer.MIN_VALUE;
-
+public final class KeptBoundsTest extends Bounds {
     private KeptBoundsTest() {
     }
 
@@ -42,23 +37,6 @@ public final class KeptBoundsTest {
         statusOfEach();
         statusOfOthers();
         Check.end("KeptBoundsTest");
-    }
-
-    private static void due(String call, long got, long want) {
-        Check.due(call, got, want);
-    }
-
-    private static void says(String sentence) {
-        Check.says(sentence);
-    }
-
-    private static Used valleys() {
-        Used x = new Used();
-        x.parish(NONE, 23);
-        x.parish(0, 17);
-        x.parish(0, 8);
-        x.parish(1, 45);
-        return x;
     }
 
     private static void row(Used x, int came, int stones, int... bytes) {

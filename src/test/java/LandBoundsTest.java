@@ -2,12 +2,7 @@
  * The boundaries of Terms I, of the acts of Terms III, and of promises 1 to
  * 5, 15 to 18, 25 and 26: at each of them, one short of it, one beyond it.
  */
-public final class LandBoundsTest {
-    private static final int NONE = OverByTens.NONE;
-    private static final int NOTHING = OverByTens.NOTHING;
-    private static final int MAX = Integer.MAX_VALUE;
-    private static final int MIN = Integer.MIN_VALUE;
-
+public final class LandBoundsTest extends Bounds {
     private LandBoundsTest() {
     }
 
@@ -44,30 +39,6 @@ public final class LandBoundsTest {
         growBy();
         growTo();
         Check.end("LandBoundsTest");
-    }
-
-    private static void due(String call, long got, long want) {
-        Check.due(call, got, want);
-    }
-
-    private static void says(String sentence) {
-        Check.says(sentence);
-    }
-
-    private static Used parishes(int... counts) {
-        Used x = new Used();
-        for (int i = 0; i < counts.length; i++) {
-            due("parish " + i, x.parish(i - 1, counts[i]), i);
-        }
-        return x;
-    }
-
-    private static Used atSea(int... counts) {
-        Used x = new Used();
-        for (int i = 0; i < counts.length; i++) {
-            due("parish " + i, x.parish(NONE, counts[i]), i);
-        }
-        return x;
     }
 
     private static void newObject() {
@@ -169,7 +140,7 @@ public final class LandBoundsTest {
 
     private static void depth() {
         says("I: DEPTH, how many PARISHES lie below it on the way to the SEA");
-        Used x = parishes(1, 1, 1, 1, 1, 1, 1, 1, 1, 1);
+        Used x = inARow(1, 1, 1, 1, 1, 1, 1, 1, 1, 1);
         for (int p = 0; p < 10; p++) {
             due("in a row, " + p, x.of(p, 2), p);
         }
@@ -186,7 +157,7 @@ public final class LandBoundsTest {
 
     private static void ofWhat() {
         says("3: what 0 .. 9 of a PARISH, NOTHING else");
-        Used x = parishes(23, 17);
+        Used x = inARow(23, 17);
         int[] want = {0, 17, 1, 0, 10, 7, 7, 1, 0, 2};
         for (int what = 0; what <= 9; what++) {
             due("of(1, " + what + ")", x.of(1, what), want[what]);
@@ -615,7 +586,7 @@ public final class LandBoundsTest {
 
     private static void passArrives() {
         says("III: those that have none LEFT arrive");
-        Used x = parishes(30, 7, 8);
+        Used x = inARow(30, 7, 8);
         Check.rule(x, "steps parish");
         due("two days", x.reckon(2), 8);
         due("a day", x.reckon(1), 7);
@@ -636,7 +607,7 @@ public final class LandBoundsTest {
         int[] before = {989, 990, 991, 999};
         int[] then = {998, 999, 999, 999};
         for (int i = 0; i < before.length; i++) {
-            Used x = parishes(before[i], 9);
+            Used x = inARow(before[i], 9);
             x.reckon(1);
             due("all arrive", x.pass(), 9);
             due(before[i] + " and 9", x.of(0, 1), then[i]);
@@ -646,7 +617,7 @@ public final class LandBoundsTest {
             due("by orders", Check.orders(x, "pass"), 1);
             due(before[i] + " and 9 by orders", x.of(0, 1), then[i]);
         }
-        Used x = parishes(985, 9);
+        Used x = inARow(985, 9);
         x.parish(0, 8);
         x.reckon(1);
         x.reckon(2);
@@ -656,7 +627,7 @@ public final class LandBoundsTest {
 
     private static void lendMen() {
         says("17: 1 .. 99 men; -1");
-        Used x = parishes(300, 300);
+        Used x = inARow(300, 300);
         int[] wrong = {0, 100, -1, 101, MAX, MIN};
         for (int men : wrong) {
             due("men " + men, x.lend(0, 1, men), -1);
@@ -679,7 +650,7 @@ public final class LandBoundsTest {
 
     private static void lendHowMany() {
         says("III: to LEND as many as it has, or fewer");
-        Used x = parishes(7, 0);
+        Used x = inARow(7, 0);
         due("8 of 7", x.lend(0, 1, 8), -3);
         due("6 of 7", x.lend(0, 1, 6), 1);
         x.undo();
@@ -696,7 +667,7 @@ public final class LandBoundsTest {
 
     private static void lendNotBeyond999() {
         says("III: to LEND, COUNT more there (not beyond 999)");
-        Used x = parishes(990, 50);
+        Used x = inARow(990, 50);
         due("10 to 990", x.lend(1, 0, 10), -3);
         due("as it was", x.of(1, 1), 50);
         due("8 to 990", x.lend(1, 0, 8), 42);

@@ -2,11 +2,7 @@
  * The boundaries of what Terms III work out on paper, and of promises 20 to
  * 24 and 27 to 30: at each of them, one short of it, one beyond it.
  */
-public final class PaperBoundsTest {
-    private static final int NONE = OverByTens.NONE;
-    private static final int NOTHING = OverByTens.NOTHING;
-    private static final int MAX = Integer.MAX_VALUE;
-    private static final int MIN = Integer.MIN_VALUE;
+public final class PaperBoundsTest extends Bounds {
     private static final long WHOLE = 1000000000000L;
 
     private PaperBoundsTest() {
@@ -53,30 +49,6 @@ public final class PaperBoundsTest {
         flowSixteen();
         flowByNumbers();
         Check.end("PaperBoundsTest");
-    }
-
-    private static void due(String call, long got, long want) {
-        Check.due(call, got, want);
-    }
-
-    private static void says(String sentence) {
-        Check.says(sentence);
-    }
-
-    private static Used inARow(int... counts) {
-        Used x = new Used();
-        for (int i = 0; i < counts.length; i++) {
-            due("parish " + i, x.parish(i - 1, counts[i]), i);
-        }
-        return x;
-    }
-
-    private static Used atSea(int... counts) {
-        Used x = new Used();
-        for (int i = 0; i < counts.length; i++) {
-            due("parish " + i, x.parish(NONE, counts[i]), i);
-        }
-        return x;
     }
 
     private static void onceWhom() {

@@ -1,8 +1,5 @@
 /** For each promise of the document, tests that fail if it is broken. */
-public final class PromisesTest {
-    private static final int NONE = OverByTens.NONE;
-    private static final int NOTHING = OverByTens.NOTHING;
-
+public final class PromisesTest extends Bounds {
     private PromisesTest() {
     }
 
@@ -47,26 +44,6 @@ public final class PromisesTest {
         count();
         status();
         Check.end("PromisesTest");
-    }
-
-    private static void due(String call, long got, long want) {
-        Check.due(call, got, want);
-    }
-
-    /** The valleys of the examples: 0 at the sea, 1 and 2 above it, 3 above 1. */
-    private static Used valleys() {
-        Used x = new Used();
-        x.parish(NONE, 23);
-        x.parish(0, 17);
-        x.parish(0, 8);
-        x.parish(1, 45);
-        return x;
-    }
-
-    private static Used lone(int count) {
-        Used x = new Used();
-        x.parish(NONE, count);
-        return x;
     }
 
     private static void newObject() {
@@ -129,7 +106,7 @@ public final class PromisesTest {
     }
 
     private static int byLaw(String law, int count, int what) {
-        Used x = lone(count);
+        Used x = Check.lone(count);
         Check.rule(x, law);
         return x.of(0, what);
     }
@@ -262,7 +239,7 @@ public final class PromisesTest {
         due("as many as there is room for", x.row(), 8);
         due("two without room", x.stones(), 2);
         due("ten", x.count(0), 10);
-        Used y = lone(5);
+        Used y = Check.lone(5);
         y.grow(0, 1);
         Check.tape(y, 9, 9, 9);
         due("a row of a stone", y.row(), 0);
@@ -270,7 +247,7 @@ public final class PromisesTest {
     }
 
     private static void law() {
-        Used x = lone(23);
+        Used x = Check.lone(23);
         due("empty tape", x.law(), -6);
         due("fault of none", x.fault(), 0);
         for (int i = 0; i < 6; i++) {
@@ -289,7 +266,7 @@ public final class PromisesTest {
             x.force(i);
             due("tens of law " + i, x.of(0, 4), i + 2);
         }
-        Used y = lone(23);
+        Used y = Check.lone(23);
         due("a wrong one", Check.law(y, "tens 5 5"), -6);
         due("is none", y.count(5), 0);
         due("its tape is empty, too", y.count(7), 0);
@@ -480,7 +457,7 @@ public final class PromisesTest {
             due("undo grow", x.undo(), 3);
             due("undo none", x.undo(), -3);
         }
-        Used y = lone(9);
+        Used y = Check.lone(9);
         Check.rule(y, "steps 9;tens 99;stays over - 1");
         due("seventeen groups", Check.orders(y, "grow 0 by 50;reckon 0 times 17"), -3);
         due("none", y.count(1), 0);
@@ -595,7 +572,7 @@ public final class PromisesTest {
     }
 
     private static void force() {
-        Used x = lone(23);
+        Used x = Check.lone(23);
         due("no law", x.force(0), -2);
         due("no law -2", x.force(-2), -2);
         due("none", x.force(NONE), NONE);
@@ -698,7 +675,7 @@ public final class PromisesTest {
         due("to the sea", x.lend(0, -1, 1), -2);
         due("from none", x.lend(4, 0, 1), -2);
         due("to none, too many", x.lend(3, 4, 99), -2);
-        Used y = lone(950);
+        Used y = Check.lone(950);
         y.parish(0, 99);
         due("beyond 999", y.lend(1, 0, 50), -3);
         due("to 999", y.lend(1, 0, 49), 50);
@@ -706,7 +683,7 @@ public final class PromisesTest {
     }
 
     private static void grow() {
-        Used x = lone(100);
+        Used x = Check.lone(100);
         due("99", x.grow(0, 99), 199);
         due("-99", x.grow(0, -99), 100);
         due("100", x.grow(0, 100), -1);
@@ -718,7 +695,7 @@ public final class PromisesTest {
         x.grow(0, -99);
         due("below 0", x.grow(0, -2), -3);
         due("to 0", x.grow(0, -1), 0);
-        Used y = lone(990);
+        Used y = Check.lone(990);
         due("beyond", y.grow(0, 10), -3);
         due("to 999", y.grow(0, 9), 999);
         due("MIN", y.grow(0, Integer.MIN_VALUE), -1);
@@ -839,7 +816,7 @@ public final class PromisesTest {
         x.force(NONE);
         x.reckon(3);
         due("groups aside", x.once(1), 7);
-        Used y = lone(30);
+        Used y = Check.lone(30);
         y.parish(0, 7);
         Check.rule(y, "bars if count > 30 and parish = 0");
         due("barred by who comes", y.once(NONE), 0);
@@ -859,7 +836,7 @@ public final class PromisesTest {
         due("what 2", x.fewest(2), NONE);
         due("what -1", x.fewest(-1), NONE);
         due("on paper", x.of(0, 1), 23);
-        Used y = lone(5);
+        Used y = Check.lone(5);
         y.parish(0, 4);
         due("behind is fewer", y.fewest(0), 9);
         due("nobody ahead, the lowest", y.fewest(1), 0);
@@ -898,7 +875,7 @@ public final class PromisesTest {
         due("up what is missing", x.lent(2), -1);
         due("up, too", x.lent(3), -1);
         due("nothing of 45", x.lent(4), 0);
-        Used y = lone(5);
+        Used y = Check.lone(5);
         y.parish(0, 5);
         due("alike: down", y.lent(2), 5);
         y.parish(NONE, 1);
@@ -958,7 +935,7 @@ public final class PromisesTest {
         due("to the sea", x.best(1), 0);
         due("what 2", x.best(2), NONE);
         due("what -1", x.best(-1), NONE);
-        Used y = lone(1);
+        Used y = Check.lone(1);
         due("one man alone", y.best(0), 2);
         due("goes", y.best(1), 1);
         y.grow(0, 98);
@@ -967,10 +944,10 @@ public final class PromisesTest {
         due("a law of who stays", y.best(0), 2);
         due("nobody goes", y.best(1), 0);
         due("by law it is otherwise", y.once(NONE), 48);
-        Used z = lone(97);
+        Used z = Check.lone(97);
         z.parish(NONE, 97 + 97);
         due("a prime", z.best(0), 97);
-        Used last = lone(197);
+        Used last = Check.lone(197);
         Check.rule(last, "bars if over = 98");
         due("99 is the last", last.best(0), 99);
     }
@@ -1008,10 +985,10 @@ public final class PromisesTest {
         due("third", x.hidden(2), NONE);
         x.hear(1, 3);
         due("not both", x.hidden(NONE), 0);
-        Used y = lone(0);
+        Used y = Check.lone(0);
         y.parish(0, 5);
         due("nobody can die in 0", y.hidden(NONE), 1);
-        due("the one can", lone(1).hidden(NONE), 1);
+        due("the one can", Check.lone(1).hidden(NONE), 1);
         due("but in 1", y.hidden(0), 1);
         Check.rule(y, "bars");
         y.hear(1, 4);
@@ -1038,7 +1015,7 @@ public final class PromisesTest {
         x.hear(2, 98);
         due("none hidden", x.look(0), NONE);
         due("none left", x.look(1), NONE);
-        Used y = lone(7);
+        Used y = Check.lone(7);
         due("the one", y.look(0), 0);
         due("one left", y.look(1), 1);
         y.parish(NONE, 7);
@@ -1052,13 +1029,13 @@ public final class PromisesTest {
         due("0", x.moved(0), 1);
         due("4", x.moved(4), NONE);
         due("-1", x.moved(-1), NONE);
-        Used y = lone(999);
+        Used y = Check.lone(999);
         due("999", y.moved(0), NONE);
         y.grow(0, -1);
         due("998", y.moved(0), 1);
         Check.rule(y, "bars");
         due("barred", y.moved(0), 0);
-        Used z = lone(4);
+        Used z = Check.lone(4);
         z.terms(1, 2);
         due("one birth, not two", z.moved(0), 1);
     }
@@ -1071,7 +1048,7 @@ public final class PromisesTest {
         due("first", x.flow(1, 0), 1);
         due("how many", x.flow(1, 1), 3);
         due("groups", x.flow(1, 2), 0);
-        due("one man alone", lone(1).flow(2, 0), 1);
+        due("one man alone", Check.lone(1).flow(2, 0), 1);
         due("two days", x.flow(2, 1), 8);
         due("n 0", x.flow(0, 0), NONE);
         due("n 61", x.flow(61, 0), NONE);
@@ -1082,7 +1059,7 @@ public final class PromisesTest {
         due("three days and one", x.flow(10, 0), 4);
         due("none in three", x.flow(3, 0), 0);
         due("groups by then", x.flow(3, 2), 4);
-        Used y = lone(40);
+        Used y = Check.lone(40);
         y.terms(0, 998);
         Check.rule(y, "tens 7 if day > 1000");
         due("behind 999", y.flow(60, 0), 4);
@@ -1128,7 +1105,7 @@ public final class PromisesTest {
             due("count behind them " + p, x.drawn(p, 0), counts[p]);
             due("walked behind them " + p, x.drawn(p, 1), walked[p]);
         }
-        Used one = lone(1);
+        Used one = Check.lone(1);
         due("a parish alone", one.years(7, 9), 2);
         due("nobody is left", one.drawn(0, 0), 0);
         x.parish(0, 5);
@@ -1140,7 +1117,7 @@ public final class PromisesTest {
         x.terms(0, 998);
         due("a day is left", x.years(0, 100), 3);
         // Of five: 12345 % 5 is 0, then 628841 % 3 is 2: three walk from 0 to the sea.
-        Used y = lone(23);
+        Used y = Check.lone(23);
         y.parish(0, 1);
         y.parish(0, 1);
         y.parish(0, 1);

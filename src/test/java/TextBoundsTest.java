@@ -2,11 +2,7 @@
  * The boundaries of Terms II and of promises 6, 7 and 10 to 14: at each of
  * them, one short of it, one beyond it.
  */
-public final class TextBoundsTest {
-    private static final int NONE = OverByTens.NONE;
-    private static final int MAX = Integer.MAX_VALUE;
-    private static final int MIN = Integer.MIN_VALUE;
-
+public final class TextBoundsTest extends Bounds {
     private TextBoundsTest() {
     }
 
@@ -52,14 +48,6 @@ public final class TextBoundsTest {
         whollyOrNotAtAll();
         stoppedAt();
         Check.end("TextBoundsTest");
-    }
-
-    private static void due(String call, long got, long want) {
-        Check.due(call, got, want);
-    }
-
-    private static void says(String sentence) {
-        Check.says(sentence);
     }
 
     private static void law(String text, int place) {
