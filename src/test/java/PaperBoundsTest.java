@@ -202,6 +202,13 @@ public final class PaperBoundsTest extends Bounds {
         due("best then", y.best(0), 2);
         y.grow(0, -23);
         due("best of one", y.best(1), 1);
+        Used z = Check.lone(7);
+        due("fewest without a law", z.fewest(0), 7);
+        Check.rule(z, "stays 2");
+        due("fewest by a law, as many being there", z.fewest(0), 5);
+        z.force(NONE);
+        z.moved(0);
+        due("fewest behind what else is asked", z.fewest(0), 7);
     }
 
     private static void fewestWhat() {
