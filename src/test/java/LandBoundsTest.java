@@ -245,6 +245,10 @@ public final class LandBoundsTest extends Bounds {
         due("SEA by both", x.count(3), 99999);
         due("orders see it", Check.orders(x, "pass if sea = 99*1000+999"), 1);
         due("and no more", Check.orders(x, "pass if sea > 99*1000+999"), 0);
+        x.grow(0, 98);
+        due("who comes is told nevertheless, at once", x.once(NONE), 98);
+        due("in days to come", x.flow(1, 1), 98);
+        due("on the first", x.flow(1, 0), 1);
     }
 
     private static Used sixteenWalk(int groups) {
